@@ -20,6 +20,7 @@ public final class ClimbedFruit {
     private static final int FRUITS = 10;
     private static final int STONES = 0;
     private static final int TENTHS = 10;
+    private static final int LOWEST_31_BITS = 0x7fffffff;
     private static final int MOST_GAIN = 9999;
 
     /** The number of nobody, who stands behind all CLIMBERS in rows of who climbs. */
@@ -764,7 +765,7 @@ public final class ClimbedFruit {
         }
 
         private int drawByTen() {
-            draw = draw * 1103515245 + 12345 & Integer.MAX_VALUE;
+            draw = (draw * 1103515245 + 12345) & LOWEST_31_BITS;
             return draw / 65536 % 10;
         }
     }
@@ -1067,6 +1068,8 @@ public final class ClimbedFruit {
     private static final class Wants {
         /** More of a FRUIT than all TREES can bear: a greater number wanted is as impossible. */
         private static final int MORE_THAN_ALL = 1000;
+        /** More than the WAGES of all CLIMBERS. */
+        private static final int NOT_FOUND = 1000;
 
         private final Plan plan;
         private final int[] lacks = new int[FRUITS];
@@ -1094,9 +1097,9 @@ public final class ClimbedFruit {
             for (int f = 0; f < FRUITS; f++) {
                 lack += Math.max(0, lacks[f]);
             }
-            wages = Integer.MAX_VALUE;
+            wages = NOT_FOUND;
             hireFrom(0, 0, 0, lack);
-            return wages < Integer.MAX_VALUE;
+            return wages < NOT_FOUND;
         }
 
         private void hireFrom(int t, int used, int paid, int lack) {
@@ -1170,7 +1173,8 @@ public final class ClimbedFruit {
 
     /** A GAME: what is to come hangs on the TREES taken, on who can't climb again, and on whose turn it is. */
     private static final class Villages {
-        private static final int UNKNOWN = Integer.MIN_VALUE;
+        /** Less than any GAME comes to. */
+        private static final int UNKNOWN = -1000000;
 
         private final Plan plan;
         private final int[] outcomes = new int[(1 << MOST_TREES) * SETS * 2];
@@ -1205,7 +1209,7 @@ public final class ClimbedFruit {
                 int free = isIn(taken, t) ? 0 : plan.freeClimbers(t, climbed) & (side == 0 ? own : ~own);
                 for (int c = 0; c < NOBODY; c++) {
                     if (isIn(free, c)) {
-                        int later = outcomeFrom(taken | 1 << t, climbed | 1 << c & ~plan.monks, 1 - side, false);
+                        int later = outcomeFrom(taken | 1 << t, climbed | (1 << c & ~plan.monks), 1 - side, false);
                         int sent = later + (side == 0 ? plan.valueBy(t, c) : -plan.valueBy(t, c));
                         best = best == UNKNOWN || (side == 0 ? sent > best : sent < best) ? sent : best;
                     }
