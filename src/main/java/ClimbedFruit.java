@@ -788,16 +788,13 @@ public final class ClimbedFruit {
         /** How many TREES the text tells of, or a FAULT. */
         int parse(int climberCount) {
             place = 0;
-            for (int t = 0; t < MOST_TREES; t++) {
-                if (!parseTree(t, climberCount)) {
-                    return FAULT - place;
-                }
+            for (int count = 1; count <= MOST_TREES && parseTree(count - 1, climberCount); count++) {
                 int letter = peek();
                 if (place == length) {
-                    return t + 1;
+                    return count;
                 }
-                if (letter != ',' || t + 1 == MOST_TREES) {
-                    return FAULT - place;
+                if (letter != ',' || count == MOST_TREES) {
+                    break;
                 }
                 place++;
             }

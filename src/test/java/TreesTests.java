@@ -15,6 +15,7 @@ public final class TreesTests {
         years();
         drawOfFoxes();
         seeds();
+        mostYears();
         DUE.end("TreesTests");
     }
 
@@ -338,5 +339,16 @@ public final class TreesTests {
         DUE.is(18, "seed(5)", x.seed(5), 5);
         DUE.is(17, "year(), nobody draws", x.year(), 0);
         DUE.is(18, "seed(5)", x.seed(5), 5);
+    }
+
+    /** More calls than the document speaks of, for only so the edge of promise 17 is reached. */
+    private static void mostYears() {
+        ClimbedFruit x = new ClimbedFruit();
+        for (int y = 1; y <= 9999; y++) {
+            x.year();
+        }
+        DUE.is(13, "count(2)", x.count(2), 9999);
+        DUE.is(17, "year(), full", x.year(), -3);
+        DUE.is(13, "count(2)", x.count(2), 9999);
     }
 }
