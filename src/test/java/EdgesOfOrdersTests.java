@@ -5,9 +5,11 @@ public final class EdgesOfOrdersTests {
     public static void main(String[] args) {
         promise19();
         promise19LikeOnes();
+        promise19Anew();
         promise20();
         promise21();
         promise21Passing();
+        promise21Choices();
         promise22();
         promises23And24();
         promises23And24Odds();
@@ -136,6 +138,41 @@ public final class EdgesOfOrdersTests {
             """);
     }
 
+    /** What was asked ahead, of more TREES or of others, is nothing to BEST. */
+    private static void promise19Anew() {
+        run(19, Edges.CROWDED, """
+            best(-1) ! 67
+            fill(0, 0, -1, -1, -1, -1, -1, -1)
+            night(0, 0, 0, 0) ! 8992
+            best(-1) ! 67
+            text(P,D)
+            night(0, 0, 0, 0) ! 32
+            best(-1) ! 38
+            best(0) ! 3
+            best(1) ! 1
+            # The last one of five.
+            price(5, 99)
+            best(-1) ! 405
+            best(0) ! 1
+            best(1) ! 4
+            """);
+        run(19, """
+            # One who is a MONK no more, with the IMAGE: another one is in that place.
+            image()
+            climber(2, 9, 1, 0)
+            text(P,P)
+            best(-1) ! 35
+            restore()
+            climber(0, 9, 1, 0)
+            text(P,P)
+            best(-1) ! 17
+            best(0) ! 0
+            best(1) ! 5
+            game(1) ! 18
+            worth(0) ! 17
+            """);
+    }
+
     private static void promise20() {
         run(20, Edges.RICH, """
             # BAD less 100000: there is no such CLIMBER; 5 is nobody.
@@ -248,14 +285,18 @@ public final class EdgesOfOrdersTests {
             game(0) = -36
             """);
         run(21, """
-            # A village that can send, must, though it would rather pass.
+            # A village that can send, must, though to pass would be better: -2 for the one, 0 for both.
             climber(0, 1, 0, 0)
             climber(0, 2, 0, 0)
             price(1, -9)
-            price(2, 9)
+            price(2, 1)
             text(P)
             game(1) = -18
-            game(2) = 18
+            game(2) = 2
+            game(0) = -2
+            price(2, -9)
+            game(1) = -18
+            game(2) = -18
             # All TREES taken, it ends: the others come too late.
             price(1, 1)
             game(1) = 2
@@ -277,6 +318,32 @@ public final class EdgesOfOrdersTests {
             fence(2, 1)
             game(1) = 0
             """);
+    }
+
+    /** The set would have it most, the others least; what comes of drawn sets is as the oracle has it. */
+    private static void promise21Choices() {
+        run(21, """
+            climber(0, 9, 0, 0)
+            climber(0, 5, 0, 0)
+            climber(0, 8, 0, 0)
+            text(P,D)
+            # 9 in the DOUBLE, then 8, not 5, in the other: 36 - 16. 8 in the DOUBLE, then 9: 32 - 18.
+            game(1) ! 20
+            game(6) ! 14
+            # 5 in the DOUBLE, then 9 in the other; the DOUBLE left to the others would be 10 - 36.
+            game(2) ! 2
+            # 9 in the DOUBLE, then 5; 8 in the DOUBLE, then 5.
+            game(5) ! 26
+            game(4) ! 14
+            game(3) ! 20
+            """);
+        int[] due = {-80, -52, -16, 4, -5, -5, 20, 28, -28, -8, 14, 28, 8, 16, 36, 52,
+            -34, -14, 12, 24, 3, 11, 32, 49, 0, 12, 36, 36, 20, 39, 56, 80};
+        StringBuilder lines = new StringBuilder();
+        for (int set = 0; set < due.length; set++) {
+            lines.append("game(" + set + ") = " + due[set] + "\n");
+        }
+        run(21, Edges.CROWDED, lines.toString());
     }
 
     private static void promise22() {

@@ -5,6 +5,7 @@ public final class EdgesOfSheetsTests {
     public static void main(String[] args) {
         promise28();
         promise28None();
+        promise28ByLast();
         promise29();
         promise29Trees();
         promise30();
@@ -161,6 +162,35 @@ public final class EdgesOfSheetsTests {
             hired(0, 2, 0, -1) ! 99
             fence(5, 1)
             hired(0, 2, 0, -1) ! NONE
+            """);
+    }
+
+    /** What LAST brings to next YEAR counts; what was asked ahead, of more TREES, does not. */
+    private static void promise28ByLast() {
+        run(28, """
+            climber(0, 1, 0, 0)
+            climber(0, 2, 0, 0)
+            text(Ga)
+            # One of 1 is there already, though none is wanted: it is not one of 2.
+            fill(0, 0, 0, 0, 2, 0, 0, 0, 0, 0, 0, 0)
+            hired(0, 0, 0, -1) ! NONE
+            fill(0, 0, 0, 1, 1, 0, 0, 0, 0, 0, 0, 0)
+            hired(0, 0, 0, 0) ! 1
+            fill(0, 0, 0, 2, 0, 0, 0, 0, 0, 0, 0, 0)
+            hired(0, 0, 0, 0) ! 0
+            fill(0, 0, 0, 3, 0, 0, 0, 0, 0, 0, 0, 0)
+            hired(0, 0, 0, 0) ! NONE
+            """);
+        run(28, """
+            climber(2, 1, 9, 0)
+            text(D,D,D,D,D,D)
+            fill(0, 0, 0, 24, 0, 0, 0, 0, 0, 0, 0, 0)
+            hired(0, 0, 0, -1) ! 9
+            text(P)
+            item(0, 0, 1, 3)
+            hired(0, 0, 0, -1) ! NONE
+            item(0, 0, 1, 2)
+            hired(0, 0, 0, -1) ! 9
             """);
     }
 
@@ -373,6 +403,17 @@ public final class EdgesOfSheetsTests {
             fence(1, 1)
             pie(0, 0, 0, 0) ! 0
             pie(0, 0, 0, 1) ! NONE
+            """);
+        run(30, """
+            # One fewer than LAST brings already can't be.
+            climber(0, 1, 0, 0)
+            climber(0, 2, 0, 0)
+            text(Ga)
+            fill(0, 0, 0, 0, 2, 0, 0, 0, 0, 0, 0, 0)
+            pie(0, 0, 0, 0) ! 0
+            fill(0, 0, 0, 1, 1, 0, 0, 0, 0, 0, 0, 0)
+            pie(0, 0, 0, 0) ! 1
+            pie(0, 0, 0, 1) ! 1
             """);
         run(30, """
             # SLOW ones and MONKS alone: all ORDERS, 6 to the 6th, are alike; the most there can be.

@@ -875,6 +875,8 @@ public final class EdgesOfTreesTests {
             value(1) ! -216
             price(0, 99)
             value(1) ! 2376
+            text(D,D,D,D,D,D)
+            value(0) ! 2376
             text(Gaf)
             price(9, -1)
             price(0, 0)
@@ -937,6 +939,34 @@ public final class EdgesOfTreesTests {
             }
             run(17, "climber(0, 1, 0, " + odds + ")", "tree(0)", lines.toString());
         }
+        run(17, """
+            # Counts by 65536 (cut): THE DRAW 655360 is 10 of these, 655359 is 9; 65535 is none, 65536 is one.
+            climber(0, 1, 0, 9)
+            tree(0)
+            seed(778675843)
+            climb(0, 0)
+            year() = 1
+            seed(1068481310) = 655360
+            climb(0, 0)
+            year() = 0
+            seed(2032319262) = 655359
+            set(0, 3, 1)
+            climb(0, 0)
+            year() = 1
+            seed(1742513795) = 65535
+            climb(0, 0)
+            year() = 0
+            seed(230538014) = 65536
+            # The most there is, 32767, is 7 by 10; none at all is 0.
+            set(0, 3, 7)
+            climb(0, 0)
+            year() = 0
+            seed(2088216195) = 2147483647
+            set(0, 3, 0)
+            climb(0, 0)
+            year() = 0
+            seed(0) = 0
+            """);
         run(17, """
             # A FOX never: it is drawn, though. Nobody is not drawn for.
             climber(3, 1, 0, 10)

@@ -86,9 +86,15 @@ final class Twins {
     private void compareSheet(int sheet) {
         for (int lane = 0; lane <= 3; lane++) {
             if (compare("night(" + sheet + ", " + lane + ", 99, 0)") == ClimbedFruit.INDEX) {
-                for (int i = 0; compare("earned(" + sheet + ", " + lane + ", " + i + ", 1, 1)") != NO_ITEM; i++) {
-                }
+                compareItems(sheet, lane);
             }
+        }
+    }
+
+    private void compareItems(int sheet, int lane) {
+        int earned = 0;
+        for (int i = 0; i <= 16 && earned != NO_ITEM; i++) {
+            earned = compare("earned(" + sheet + ", " + lane + ", " + i + ", 1, 1)");
         }
     }
 }
